@@ -126,6 +126,10 @@ public final class LanguageTest {
     private static void brokenTexts() {
         bad(1, "^;");
         bad(1, "ground^");
+        bad(1, "ground ^;");
+        bad(1, "fisher ^;");
+        bad(1, "go ^;");
+        bad(1, "pact ^;");
         bad(1, "ground a room 1 fish 1^");
         bad(1, "ground a room 1 fish 1  \n^");
         bad(1, GROUND + "^;");
