@@ -9,24 +9,35 @@ final class Due {
 
     private static int wrong = 0;
     private static int checked = 0;
+    /** What is printed ahead of each wrong answer. */
+    private static String heading = "";
 
     private Due() {
+    }
+
+    /** What follows is for this sentence of the document; a sentence that the document does not have is wrong, too. */
+    static void sentence(String where, String words) {
+        heading = where + ", \"" + words + "\": ";
+        isTrue("the document says so", Document.says(where, words));
     }
 
     static void same(String what, long got, long due) {
         checked++;
         if (got != due) {
-            wrong++;
-            System.out.println(what + " answered " + got + ", due is " + due);
+            tell(what + " answered " + got + ", due is " + due);
         }
     }
 
     static void same(String what, double got, double due) {
         checked++;
         if (got != due) {
-            wrong++;
-            System.out.println(what + " answered " + got + ", due is " + due);
+            tell(what + " answered " + got + ", due is " + due);
         }
+    }
+
+    private static void tell(String fault) {
+        wrong++;
+        System.out.println(heading + fault);
     }
 
     static void isTrue(String what, boolean got) {
@@ -45,8 +56,7 @@ final class Due {
             }
             got = e.toString();
         }
-        wrong++;
-        System.out.println(what + " gave " + got + ", due is " + due.getName());
+        tell(what + " gave " + got + ", due is " + due.getName());
     }
 
     /** The exception is due, and the object has to be as it was. */

@@ -1,7 +1,7 @@
 /** Promises 1 to 6: a new object, and the language. */
 public final class LanguageTest {
-    private static final String GROUND = "ground a room 1 fish 1;";
-    private static final String FISHER = "fisher f mesh 1 net 9 hold 4;";
+    private static final String GROUND = Texts.GROUND;
+    private static final String FISHER = Texts.FISHER;
 
     public static void main(String[] args) {
         newObject();
@@ -94,110 +94,110 @@ public final class LanguageTest {
     }
 
     private static void tokens() {
-        good("");
-        good(" \n \n");
-        good("ground a room 3fish 4;");
-        good("ground a\nroom\n1\nfish 4,5 , 6\n,7;\n");
-        good("ground abcdefghij room 000008 fish 000099;");
-        good("ground a1b2 room 1 fish 1;fisher a1b2 mesh 1net 1hold 1;go a1b2 to a1b2;pact a1b2 of a1b2 split;");
-        good(GROUND + FISHER + "go f to a when[1<2]or[3<=4]and[5=5]and not[2>3]or 2>=1;");
-        good(GROUND + FISHER + "go f to a when-1<min(tide,max(2,3));");
-        good("ground grounds room 1 fish 1; ground f1sh room 1 fish 1;");
+        Texts.good("");
+        Texts.good(" \n \n");
+        Texts.good("ground a room 3fish 4;");
+        Texts.good("ground a\nroom\n1\nfish 4,5 , 6\n,7;\n");
+        Texts.good("ground abcdefghij room 000008 fish 000099;");
+        Texts.good("ground a1b2 room 1 fish 1;fisher a1b2 mesh 1net 1hold 1;go a1b2 to a1b2;pact a1b2 of a1b2 split;");
+        Texts.good(GROUND + FISHER + "go f to a when[1<2]or[3<=4]and[5=5]and not[2>3]or 2>=1;");
+        Texts.good(GROUND + FISHER + "go f to a when-1<min(tide,max(2,3));");
+        Texts.good("ground grounds room 1 fish 1; ground f1sh room 1 fish 1;");
         // A greater number is never too great in a sum.
-        good(GROUND + FISHER + "pact p of f spare a below 999999 * 999999;");
-        bad(1, "^grounda room 1 fish 1;");
-        bad(1, "ground a ^room1 fish 1;");
-        bad(1, "ground ^abcdefghijk room 1 fish 1;");
-        bad(1, "ground ^a234567890b room 1 fish 1;");
-        bad(1, "ground a room ^0000001 fish 1;");
-        bad(1, "ground ^A room 1 fish 1;");
-        bad(1, "ground a^_ room 1 fish 1;");
-        bad(1, "ground a^\t room 1 fish 1;");
-        bad(1, "ground a^\r room 1 fish 1;");
-        bad(1, "ground a^\u00e1 room 1 fish 1;");
-        bad(1, "ground a^\u008a room 1 fish 1;");
-        bad(1, "ground a^\u0000 room 1 fish 1;");
-        bad(1, "ground a room 1 fish 1^.");
-        bad(1, GROUND + FISHER + "go f to a when 1 <^> 2;");
-        bad(1, GROUND + FISHER + "go f to a when 1 < ^= 2;");
-        bad(1, GROUND + FISHER + "go f to a when 1 =^< 2;");
+        Texts.good(GROUND + FISHER + "pact p of f spare a below 999999 * 999999;");
+        Texts.bad(1, "^grounda room 1 fish 1;");
+        Texts.bad(1, "ground a ^room1 fish 1;");
+        Texts.bad(1, "ground ^abcdefghijk room 1 fish 1;");
+        Texts.bad(1, "ground ^a234567890b room 1 fish 1;");
+        Texts.bad(1, "ground a room ^0000001 fish 1;");
+        Texts.bad(1, "ground ^A room 1 fish 1;");
+        Texts.bad(1, "ground a^_ room 1 fish 1;");
+        Texts.bad(1, "ground a^\t room 1 fish 1;");
+        Texts.bad(1, "ground a^\r room 1 fish 1;");
+        Texts.bad(1, "ground a^\u00e1 room 1 fish 1;");
+        Texts.bad(1, "ground a^\u008a room 1 fish 1;");
+        Texts.bad(1, "ground a^\u0000 room 1 fish 1;");
+        Texts.bad(1, "ground a room 1 fish 1^.");
+        Texts.bad(1, GROUND + FISHER + "go f to a when 1 <^> 2;");
+        Texts.bad(1, GROUND + FISHER + "go f to a when 1 < ^= 2;");
+        Texts.bad(1, GROUND + FISHER + "go f to a when 1 =^< 2;");
     }
 
     private static void brokenTexts() {
-        bad(1, "^;");
-        bad(1, "ground^");
-        bad(1, "ground ^;");
-        bad(1, "fisher ^;");
-        bad(1, "go ^;");
-        bad(1, "pact ^;");
-        bad(1, "ground a room 1 fish 1^");
-        bad(1, "ground a room 1 fish 1  \n^");
-        bad(1, GROUND + "^;");
-        bad(1, "ground ^room room 1 fish 1;");
-        bad(1, "ground ^1 room 1 fish 1;");
-        bad(1, "ground a ^fish 1 room 1;");
-        bad(1, "ground a room ^a fish 1;");
-        bad(1, "ground a room ^-1 fish 1;");
-        bad(1, "ground a room 1 fish ^;");
-        bad(1, "ground a room 1 fish 1,^;");
-        bad(1, "ground a room 1 fish 1 ^2;");
-        bad(1, "fisher f ^net 9 mesh 1 hold 4;");
-        bad(1, "fisher f mesh 1 net 9^;");
-        bad(1, "fisher f mesh 1 net 9 hold 4^,");
-        bad(1, "fisher f mesh ^x net 9 hold 4;");
-        bad(1, GROUND + FISHER + "go ^to a;");
-        bad(1, GROUND + FISHER + "go f ^a;");
-        bad(1, GROUND + FISHER + "go f to ^when 1 < 2;");
-        bad(1, GROUND + FISHER + "go f to a when^;");
-        bad(1, GROUND + FISHER + "go f to a when 1^;");
-        bad(1, GROUND + FISHER + "go f to a when 1 < 2 ^< 3;");
-        bad(1, GROUND + FISHER + "go f to a when (1 ^< 2);");
-        bad(1, GROUND + FISHER + "go f to a when [1^] < 2;");
-        bad(1, GROUND + FISHER + "go f to a when 1 < ^cheats f;");
-        bad(1, GROUND + FISHER + "go f to a when 1 < 2 and^;");
-        bad(1, GROUND + FISHER + "go f to a when 1 < 2 or ^or 1 < 2;");
-        bad(1, GROUND + FISHER + "go f to a when tide ^f < 2;");
-        bad(1, GROUND + FISHER + "go f to a when fish ^1 < 2;");
-        bad(1, GROUND + FISHER + "go f to a when store^;");
-        bad(1, GROUND + FISHER + "go f to a when min ^1 < 2;");
-        bad(1, GROUND + FISHER + "go f to a when min(1^) < 2;");
-        bad(1, GROUND + FISHER + "go f to a when max(1, 2^, 3) < 2;");
-        bad(1, GROUND + FISHER + "go f to a when ^+1 < 2;");
-        bad(1, GROUND + FISHER + "go f to a when ^f < 2;");
-        bad(1, GROUND + FISHER + "go f to a when ^net f < 2;");
-        bad(1, GROUND + FISHER + "pact p of ^split;");
-        bad(1, GROUND + FISHER + "pact p of f, ^split;");
-        bad(1, GROUND + FISHER + "pact p of f ^share;");
-        bad(1, GROUND + FISHER + "pact p of f^;");
-        bad(1, GROUND + FISHER + "pact p of f split ^a below 1;");
-        bad(1, GROUND + FISHER + "pact p of f spare a^;");
-        bad(1, GROUND + FISHER + "pact p of f spare a below^;");
-        bad(1, GROUND + FISHER + "pact p of f spare a below 1 ^< 2;");
+        Texts.bad(1, "^;");
+        Texts.bad(1, "ground^");
+        Texts.bad(1, "ground ^;");
+        Texts.bad(1, "fisher ^;");
+        Texts.bad(1, "go ^;");
+        Texts.bad(1, "pact ^;");
+        Texts.bad(1, "ground a room 1 fish 1^");
+        Texts.bad(1, "ground a room 1 fish 1  \n^");
+        Texts.bad(1, GROUND + "^;");
+        Texts.bad(1, "ground ^room room 1 fish 1;");
+        Texts.bad(1, "ground ^1 room 1 fish 1;");
+        Texts.bad(1, "ground a ^fish 1 room 1;");
+        Texts.bad(1, "ground a room ^a fish 1;");
+        Texts.bad(1, "ground a room ^-1 fish 1;");
+        Texts.bad(1, "ground a room 1 fish ^;");
+        Texts.bad(1, "ground a room 1 fish 1,^;");
+        Texts.bad(1, "ground a room 1 fish 1 ^2;");
+        Texts.bad(1, "fisher f ^net 9 mesh 1 hold 4;");
+        Texts.bad(1, "fisher f mesh 1 net 9^;");
+        Texts.bad(1, "fisher f mesh 1 net 9 hold 4^,");
+        Texts.bad(1, "fisher f mesh ^x net 9 hold 4;");
+        Texts.bad(1, GROUND + FISHER + "go ^to a;");
+        Texts.bad(1, GROUND + FISHER + "go f ^a;");
+        Texts.bad(1, GROUND + FISHER + "go f to ^when 1 < 2;");
+        Texts.bad(1, GROUND + FISHER + "go f to a when^;");
+        Texts.bad(1, GROUND + FISHER + "go f to a when 1^;");
+        Texts.bad(1, GROUND + FISHER + "go f to a when 1 < 2 ^< 3;");
+        Texts.bad(1, GROUND + FISHER + "go f to a when (1 ^< 2);");
+        Texts.bad(1, GROUND + FISHER + "go f to a when [1^] < 2;");
+        Texts.bad(1, GROUND + FISHER + "go f to a when 1 < ^cheats f;");
+        Texts.bad(1, GROUND + FISHER + "go f to a when 1 < 2 and^;");
+        Texts.bad(1, GROUND + FISHER + "go f to a when 1 < 2 or ^or 1 < 2;");
+        Texts.bad(1, GROUND + FISHER + "go f to a when tide ^f < 2;");
+        Texts.bad(1, GROUND + FISHER + "go f to a when fish ^1 < 2;");
+        Texts.bad(1, GROUND + FISHER + "go f to a when store^;");
+        Texts.bad(1, GROUND + FISHER + "go f to a when min ^1 < 2;");
+        Texts.bad(1, GROUND + FISHER + "go f to a when min(1^) < 2;");
+        Texts.bad(1, GROUND + FISHER + "go f to a when max(1, 2^, 3) < 2;");
+        Texts.bad(1, GROUND + FISHER + "go f to a when ^+1 < 2;");
+        Texts.bad(1, GROUND + FISHER + "go f to a when ^f < 2;");
+        Texts.bad(1, GROUND + FISHER + "go f to a when ^net f < 2;");
+        Texts.bad(1, GROUND + FISHER + "pact p of ^split;");
+        Texts.bad(1, GROUND + FISHER + "pact p of f, ^split;");
+        Texts.bad(1, GROUND + FISHER + "pact p of f ^share;");
+        Texts.bad(1, GROUND + FISHER + "pact p of f^;");
+        Texts.bad(1, GROUND + FISHER + "pact p of f split ^a below 1;");
+        Texts.bad(1, GROUND + FISHER + "pact p of f spare a^;");
+        Texts.bad(1, GROUND + FISHER + "pact p of f spare a below^;");
+        Texts.bad(1, GROUND + FISHER + "pact p of f spare a below 1 ^< 2;");
     }
 
     private static void depth() {
         String start = GROUND + FISHER + "go f to a when ";
         String pact = GROUND + FISHER + "pact p of f spare a below ";
-        good(start + "((((((((1)))))))) < 2;");
-        bad(1, start + "((((((((^(1))))))))) < 2;");
-        good(start + "[[[[[[[[1 < 2]]]]]]]];");
-        bad(1, start + "[[[[[[[[^[1 < 2]]]]]]]]];");
-        good(start + "not not not not not not not not cheats f;");
-        bad(1, start + "not not not not not not not not ^not cheats f;");
-        good(start + "- - - - - - - -1 < 2;");
-        bad(1, start + "- - - - - - - - ^-1 < 2;");
-        good(start + "not [not [not [-(1) < 2]]];");
-        bad(1, start + "not [not [not [-(^(1)) < 2]]];");
-        bad(1, start + "not [not [not [-(min^(1, 2)) < 2]]];");
-        bad(1, start + "not [not [not [-(^-1) < 2]]];");
-        good(start + "not [not [not [not [1 < 2]]]] and [[[[[[[[1 < 2]]]]]]]];");
-        bad(1, start + "not [not [not [not [^(1) < 2]]]];");
-        bad(1, start + "not [not [not [not [^[1 < 2]]]]];");
-        bad(1, start + "not [not [not [not [^not 1 < 2]]]];");
-        good(start + "-1 - -1 - -1 - -1 - -1 - -1 - -1 - -1 - -1 - -1 - -1 < 2;");
-        good(pact + "min(min(min(min(min(min(min(min(1,2),2),2),2),2),2),2),(((((((1))))))) - 7);");
-        bad(1, pact + "min(min(min(min(min(min(min(min(min^(1,2),2),2),2),2),2),2),2),2);");
-        bad(1, pact + "max(2, (((((((^(1)))))))));");
+        Texts.good(start + "((((((((1)))))))) < 2;");
+        Texts.bad(1, start + "((((((((^(1))))))))) < 2;");
+        Texts.good(start + "[[[[[[[[1 < 2]]]]]]]];");
+        Texts.bad(1, start + "[[[[[[[[^[1 < 2]]]]]]]]];");
+        Texts.good(start + "not not not not not not not not cheats f;");
+        Texts.bad(1, start + "not not not not not not not not ^not cheats f;");
+        Texts.good(start + "- - - - - - - -1 < 2;");
+        Texts.bad(1, start + "- - - - - - - - ^-1 < 2;");
+        Texts.good(start + "not [not [not [-(1) < 2]]];");
+        Texts.bad(1, start + "not [not [not [-(^(1)) < 2]]];");
+        Texts.bad(1, start + "not [not [not [-(min^(1, 2)) < 2]]];");
+        Texts.bad(1, start + "not [not [not [-(^-1) < 2]]];");
+        Texts.good(start + "not [not [not [not [1 < 2]]]] and [[[[[[[[1 < 2]]]]]]]];");
+        Texts.bad(1, start + "not [not [not [not [^(1) < 2]]]];");
+        Texts.bad(1, start + "not [not [not [not [^[1 < 2]]]]];");
+        Texts.bad(1, start + "not [not [not [not [^not 1 < 2]]]];");
+        Texts.good(start + "-1 - -1 - -1 - -1 - -1 - -1 - -1 - -1 - -1 - -1 - -1 < 2;");
+        Texts.good(pact + "min(min(min(min(min(min(min(min(1,2),2),2),2),2),2),2),(((((((1))))))) - 7);");
+        Texts.bad(1, pact + "min(min(min(min(min(min(min(min(min^(1,2),2),2),2),2),2),2),2),2);");
+        Texts.bad(1, pact + "max(2, (((((((^(1)))))))));");
     }
 
     private static void tokenLimit() {
@@ -206,77 +206,77 @@ public final class LanguageTest {
             sum.append("+1");
         }
         String pact = GROUND + FISHER + "pact p of f spare a below ";
-        good(pact + "-" + sum + ";");
-        good(pact + "-" + sum + "; \n");
-        bad(1, pact + sum + "+1^;");
-        bad(1, pact + "-" + sum + ";^pact");
-        bad(1, pact + "-" + sum + "; ^?");
-        bad(1, pact + "-" + sum + "+^1;");
+        Texts.good(pact + "-" + sum + ";");
+        Texts.good(pact + "-" + sum + "; \n");
+        Texts.bad(1, pact + sum + "+1^;");
+        Texts.bad(1, pact + "-" + sum + ";^pact");
+        Texts.bad(1, pact + "-" + sum + "; ^?");
+        Texts.bad(1, pact + "-" + sum + "+^1;");
         // An error further ahead counts, as does an error 1 behind another error.
-        bad(1, pact + "^;" + sum + sum);
-        bad(1, pact.replace("room 1", "room 9") + "-" + sum + "+^1;");
+        Texts.bad(1, pact + "^;" + sum + sum);
+        Texts.bad(1, pact.replace("room 1", "room 9") + "-" + sum + "+^1;");
     }
 
     private static void otherErrors() {
-        bad(2, GROUND + "ground ^a room 1 fish 1;");
-        bad(2, FISHER + "fisher ^f mesh 1 net 9 hold 4;");
-        bad(2, FISHER + "pact p of f split; pact ^p of f split;");
-        bad(3, "go ^f to a;");
-        bad(3, FISHER + "go f to ^a;");
-        bad(3, FISHER + "go f to ^f;");
-        bad(3, GROUND + "go ^a to a;");
-        bad(3, GROUND + FISHER + "go f to a when store ^a < 1;");
-        bad(3, GROUND + FISHER + "go f to a when catch ^g < 1;");
-        bad(3, GROUND + FISHER + "go f to a when mesh ^a < 1;");
-        bad(3, GROUND + FISHER + "go f to a when cheats ^a;");
-        bad(3, GROUND + FISHER + "go f to a when fish ^f < 1;");
-        bad(3, GROUND + FISHER + "go f to a when boats ^f < 1;");
-        bad(3, GROUND + "pact p of ^a split;");
-        bad(3, GROUND + FISHER + "pact p of f, ^g split;");
-        bad(3, GROUND + FISHER + "pact p of f spare ^f below 1;");
-        bad(3, GROUND + FISHER + "pact p of f spare a below fish ^b;");
-        bad(3, GROUND + FISHER + "pact p of f split; pact q of ^p split;");
-        bad(3, GROUND + FISHER + "go ^g to a; fisher g mesh 1 net 1 hold 1;");
-        bad(5, "ground a room ^0 fish 1;");
-        bad(5, "ground a room ^9 fish 1;");
-        bad(5, "ground a room 8 fish ^100;");
-        bad(5, "ground a room 1 fish 0, 99, 0, 0, ^100;");
-        bad(5, "fisher f mesh ^0 net 9 hold 4;");
-        bad(5, "fisher f mesh ^6 net 9 hold 4;");
-        bad(5, "fisher f mesh 5 net ^0 hold 4;");
-        bad(5, "fisher f mesh 1 net ^100 hold 4;");
-        bad(5, "fisher f mesh 1 net 99 hold ^0;");
-        bad(5, "fisher f mesh 1 net 9 hold ^41;");
-        bad(6, FISHER + "pact p of f, ^f split;");
-        bad(6, FISHER + "fisher g mesh 1 net 9 hold 4; pact p of f, g, ^f, g split;");
-        bad(4, "ground a room 1 fish 1, 2, 3, 4, 5, ^6;");
-        bad(4, repeat("ground # room 1 fish 1;", 8) + "ground ^a room 1 fish 1;");
-        bad(4, repeat("fisher # mesh 1 net 1 hold 1;", 8) + "fisher ^a mesh 1 net 1 hold 1;");
-        bad(4, FISHER + repeat("pact # of f split;", 6) + "pact ^a of f split;");
-        bad(4, GROUND + FISHER + repeat("go f to a;", 24) + "^go f to a;");
+        Texts.bad(2, GROUND + "ground ^a room 1 fish 1;");
+        Texts.bad(2, FISHER + "fisher ^f mesh 1 net 9 hold 4;");
+        Texts.bad(2, FISHER + "pact p of f split; pact ^p of f split;");
+        Texts.bad(3, "go ^f to a;");
+        Texts.bad(3, FISHER + "go f to ^a;");
+        Texts.bad(3, FISHER + "go f to ^f;");
+        Texts.bad(3, GROUND + "go ^a to a;");
+        Texts.bad(3, GROUND + FISHER + "go f to a when store ^a < 1;");
+        Texts.bad(3, GROUND + FISHER + "go f to a when catch ^g < 1;");
+        Texts.bad(3, GROUND + FISHER + "go f to a when mesh ^a < 1;");
+        Texts.bad(3, GROUND + FISHER + "go f to a when cheats ^a;");
+        Texts.bad(3, GROUND + FISHER + "go f to a when fish ^f < 1;");
+        Texts.bad(3, GROUND + FISHER + "go f to a when boats ^f < 1;");
+        Texts.bad(3, GROUND + "pact p of ^a split;");
+        Texts.bad(3, GROUND + FISHER + "pact p of f, ^g split;");
+        Texts.bad(3, GROUND + FISHER + "pact p of f spare ^f below 1;");
+        Texts.bad(3, GROUND + FISHER + "pact p of f spare a below fish ^b;");
+        Texts.bad(3, GROUND + FISHER + "pact p of f split; pact q of ^p split;");
+        Texts.bad(3, GROUND + FISHER + "go ^g to a; fisher g mesh 1 net 1 hold 1;");
+        Texts.bad(5, "ground a room ^0 fish 1;");
+        Texts.bad(5, "ground a room ^9 fish 1;");
+        Texts.bad(5, "ground a room 8 fish ^100;");
+        Texts.bad(5, "ground a room 1 fish 0, 99, 0, 0, ^100;");
+        Texts.bad(5, "fisher f mesh ^0 net 9 hold 4;");
+        Texts.bad(5, "fisher f mesh ^6 net 9 hold 4;");
+        Texts.bad(5, "fisher f mesh 5 net ^0 hold 4;");
+        Texts.bad(5, "fisher f mesh 1 net ^100 hold 4;");
+        Texts.bad(5, "fisher f mesh 1 net 99 hold ^0;");
+        Texts.bad(5, "fisher f mesh 1 net 9 hold ^41;");
+        Texts.bad(6, FISHER + "pact p of f, ^f split;");
+        Texts.bad(6, FISHER + "fisher g mesh 1 net 9 hold 4; pact p of f, g, ^f, g split;");
+        Texts.bad(4, "ground a room 1 fish 1, 2, 3, 4, 5, ^6;");
+        Texts.bad(4, Texts.lines("ground # room 1 fish 1;", 8) + "ground ^a room 1 fish 1;");
+        Texts.bad(4, Texts.lines("fisher # mesh 1 net 1 hold 1;", 8) + "fisher ^a mesh 1 net 1 hold 1;");
+        Texts.bad(4, FISHER + Texts.lines("pact # of f split;", 6) + "pact ^a of f split;");
+        Texts.bad(4, GROUND + FISHER + Texts.lines("go f to a;", 24) + "^go f to a;");
     }
 
     private static void firstErrorCounts() {
-        bad(1, "ground a room 9 fish 1; ^;");
-        bad(5, GROUND + "ground b room ^9 fish 1; ground a room 1 fish 1;");
-        bad(2, GROUND + "ground ^a room 9 fish 1;");
-        bad(3, FISHER + "pact p of ^g, g, f, f split;");
-        bad(4, "ground a room 1 fish 1, 2, 3, 4, 5, ^100, 100;");
-        bad(2, repeat("ground # room 1 fish 1;", 8) + "ground ^n1 room 1 fish 1;");
-        bad(2, FISHER + repeat("pact # of f split;", 6) + "pact ^n1 of f split;");
-        bad(4, GROUND + FISHER + repeat("go f to a;", 24) + "^go g to b;");
-        bad(6, FISHER + "pact p of f, ^f, g split;");
-        bad(5, "ground a room ^0 fish 100;");
-        bad(2, FISHER + "fisher ^f mesh 0 net 0 hold 0;");
+        Texts.bad(1, "ground a room 9 fish 1; ^;");
+        Texts.bad(5, GROUND + "ground b room ^9 fish 1; ground a room 1 fish 1;");
+        Texts.bad(2, GROUND + "ground ^a room 9 fish 1;");
+        Texts.bad(3, FISHER + "pact p of ^g, g, f, f split;");
+        Texts.bad(4, "ground a room 1 fish 1, 2, 3, 4, 5, ^100, 100;");
+        Texts.bad(2, Texts.lines("ground # room 1 fish 1;", 8) + "ground ^n1 room 1 fish 1;");
+        Texts.bad(2, FISHER + Texts.lines("pact # of f split;", 6) + "pact ^n1 of f split;");
+        Texts.bad(4, GROUND + FISHER + Texts.lines("go f to a;", 24) + "^go g to b;");
+        Texts.bad(6, FISHER + "pact p of f, ^f, g split;");
+        Texts.bad(5, "ground a room ^0 fish 100;");
+        Texts.bad(2, FISHER + "fisher ^f mesh 0 net 0 hold 0;");
     }
 
     private static void limitsThatStillHold() {
-        good(repeat("ground # room 8 fish 99, 0, 99, 0, 99;", 8));
-        good(repeat("fisher # mesh 5 net 99 hold 40;", 8) + "pact all of n1, n2, n3, n4, n5, n6, n7, n8 split;");
-        good(FISHER + repeat("pact # of f split;", 6));
-        good(GROUND + FISHER + repeat("go f to a;", 24));
+        Texts.good(Texts.lines("ground # room 8 fish 99, 0, 99, 0, 99;", 8));
+        Texts.good(Texts.lines("fisher # mesh 5 net 99 hold 40;", 8) + "pact all of n1, n2, n3, n4, n5, n6, n7, n8 split;");
+        Texts.good(FISHER + Texts.lines("pact # of f split;", 6));
+        Texts.good(GROUND + FISHER + Texts.lines("go f to a;", 24));
         // Grounds, fishers and pacts may have the same names.
-        good("ground x room 1 fish 1; fisher x mesh 1 net 1 hold 1; pact x of x spare x below fish x + store x;");
+        Texts.good("ground x room 1 fish 1; fisher x mesh 1 net 1 hold 1; pact x of x spare x below fish x + store x;");
     }
 
     private static void teachReplacesAll() {
@@ -324,8 +324,8 @@ public final class LanguageTest {
             "ground b room 9 fish 1; fisher g mesh 2 net 2 hold 2;",
             "ground b room 1 fish 1; fisher g mesh 2 net 2 hold 2; go g to b; go h to b;",
             "fisher f mesh 1 net 1 hold 1; pact p of f, f, f, f, f, f, f, f, f, f split;",
-            repeat("ground # room 1 fish 2;", 12),
-            repeat("fisher # mesh 1 net 1 hold 1;", 12),
+            Texts.lines("ground # room 1 fish 2;", 12),
+            Texts.lines("fisher # mesh 1 net 1 hold 1;", 12),
         };
         for (String text : texts) {
             Due.isTrue("promise 4: an error in " + text, Due.teach(shore, text) != 0);
@@ -340,32 +340,5 @@ public final class LanguageTest {
         Due.same("promise 5: errorAt() stays", shore.errorAt(), 14);
         Due.same("promise 5: teach again", shore.teach(), 0);
         Due.same("promise 5: errorAt() of no error", shore.errorAt(), -1);
-    }
-
-    private static void good(String text) {
-        TideLots shore = new TideLots();
-        Due.same("promise 4: teach of " + text, Due.teach(shore, text), 0);
-        Due.same("promise 5: errorAt of " + text, shore.errorAt(), -1);
-        Due.same("promise 4: bytes behind " + text, shore.count(9), 0);
-    }
-
-    /** The error is due at the ^, which is no part of the text. */
-    private static void bad(int error, String text) {
-        int at = text.indexOf('^');
-        String bare = text.substring(0, at) + text.substring(at + 1);
-        TideLots shore = new TideLots();
-        Due.same("promise 4: teach of " + text, Due.teach(shore, bare), error);
-        Due.same("promise 5: errorAt of " + text, shore.errorAt(), at);
-        Due.same("promise 4: bytes behind " + text, shore.count(9), 0);
-        Due.same("promise 4: grounds behind " + text, shore.count(1), 0);
-    }
-
-    /** The line so often, with n1, n2 and so on for #. */
-    private static String repeat(String line, int times) {
-        StringBuilder text = new StringBuilder();
-        for (int i = 1; i <= times; i++) {
-            text.append(line.replace("#", "n" + i));
-        }
-        return text.toString();
     }
 }

@@ -166,7 +166,7 @@ public final class ShoreTest {
 
     private static void lot() {
         TideLots shore = example();
-        // l: 69070 (by 65536: 1), 475628535 (7257), 2966101508 (45259)
+        // l: 69070 (by 65536: 1), 475628535 (7257), 3277404108 (50009)
         same("promise 12: lots", new int[] {shore.lot(0), shore.lot(1), shore.lot(2)}, 1, 2, 0);
         Due.same("promise 12: lot(0) again", shore.lot(0), 1);
         long digest = shore.digest();
