@@ -15,7 +15,10 @@ public final class EdgesOfCallsTest {
         feedBytes();
         feedFull();
         trim();
+        nothingBehindTrim();
         teachReplaces();
+        teachAgainAndAgain();
+        smallBehindGreat();
         teachWithAnError();
         errorAt();
         count();
@@ -31,6 +34,8 @@ public final class EdgesOfCallsTest {
         gap();
         pass();
         foresee();
+        aheadAsItPasses();
+        aheadWithTheMostOfAll();
         pays();
         empty();
         advise();
@@ -148,6 +153,35 @@ public final class EdgesOfCallsTest {
         Due.same("fish", shore.ground(0, 0), 1);
     }
 
+    /** What stood behind the first bytes is not read any more, not even to look for a longer token. */
+    private static void nothingBehindTrim() {
+        Due.sentence("promise 3", "Shortens the tape to its first bytes.");
+        String text = "ground ab room 12 fish 99;fisher f mesh 1 net 9 hold 4;go f to ab when 1 <= 22 and 3 >= tide or not cheats f;";
+        for (int length = 0; length <= text.length(); length++) {
+            TideLots shore = new TideLots();
+            Due.write(shore, text);
+            shore.trim(length);
+            TideLots twin = new TideLots();
+            Due.write(twin, text.substring(0, length) + "?");
+            twin.trim(length);
+            Due.same("teach of the first " + length + " bytes", shore.teach(), twin.teach());
+            Due.same("errorAt of the first " + length + " bytes", shore.errorAt(), twin.errorAt());
+        }
+        for (String end : new String[] {"a", "7", "<", ">", "=", ";", "g", "99"}) {
+            TideLots full = new TideLots();
+            Due.write(full, " ".repeat(2000 - end.length()) + end);
+            Due.same("teach of a full tape with " + end + " at its end", full.teach(), 1);
+            Due.same("errorAt of a full tape with " + end + " at its end", full.errorAt(), 2000 - end.length());
+        }
+        String open = "fisher f mesh 1 net 9 hold 4; ground a room 1 fish 1; go f to a when 1 ";
+        for (String end : new String[] {"<", ">", "=", "<=", "< a", "< 7", "< tide"}) {
+            TideLots full = new TideLots();
+            Due.write(full, " ".repeat(2000 - open.length() - end.length()) + open + end);
+            Due.same("teach of a full tape with " + end + " at its end", full.teach(), 1);
+            Due.same("errorAt of a full tape with " + end + " at its end", full.errorAt(), end.equals("< a") ? 1999 : 2000);
+        }
+    }
+
     private static void teachReplaces() {
         Due.sentence("promise 4", "Reads the tape as a text, in the place of all that was told before; "
                 + "the tide and the number l stay.");
@@ -181,6 +215,47 @@ public final class EdgesOfCallsTest {
             Due.same("count(" + what + ") behind a text of nothing", shore.count(what), 0);
         }
         Due.same("the tide behind a text of nothing", shore.count(0), 4);
+    }
+
+    private static void teachAgainAndAgain() {
+        Due.sentence("promise 4", "in the place of all that was told before");
+        TideLots shore = new TideLots();
+        String text = FIVES + "ground b room 2 fish 4; fisher f mesh 5 net 4 hold 4; fisher g mesh 5 net 99 hold 3;"
+                + "go f to a; go g to a; go g to b; pact p of g, f split; pact q of f spare b below 9;";
+        int[] counts = {2, 2, 3, 2, 103, 0, 0, 0, 0};
+        int[][] fishers = {{5, 5, 4, 4, 0, 0, -1, 0, 0, 0}, {5, 5, 99, 3, 0, 0, -1, 0, 0, 0}};
+        int[][] pacts = {{0, -1, 2, 1, 0, 0, 0}, {1, 1, 1, 0, 0, 0, 0}};
+        for (int times = 0; times < 5; times++) {
+            Due.same("teach", Due.teach(shore, text), 0);
+            for (int what = 1; what <= 9; what++) {
+                Due.same("count(" + what + ")", shore.count(what), counts[what - 1]);
+            }
+            for (int i = 0; i < 2; i++) {
+                for (int what = 0; what <= 9; what++) {
+                    Due.same("fisher(" + i + ", " + what + ")", shore.fisher(i, what), fishers[i][what]);
+                }
+                for (int what = 0; what <= 6; what++) {
+                    Due.same("pact(" + i + ", " + what + ")", shore.pact(i, what), pacts[i][what]);
+                }
+                Due.same("boats", shore.ground(i, 7), 0);
+                Due.same("fish that were caught", shore.ground(i, 8), 0);
+                Due.same("blame(" + i + ")", shore.blame(i), -1);
+            }
+            shore.cheat(0, true);
+            shore.cheat(1, true);
+            Due.same("pass(1)", shore.pass(1), 15);
+            shore.foresee(3, 0);
+        }
+        // A long test is the same one, as often as it is told.
+        String goes = "ground a room 1 fish 9; fisher f mesh 1 net 9 hold 1; go f to a when " + "1+".repeat(170) + "1 = ";
+        for (int times = 0; times < 6; times++) {
+            Due.same("teach", Due.teach(shore, goes + "172;"), 0);
+            shore.pass(1);
+            Due.same("a long test that does not hold", shore.fisher(0, 6), -1);
+            Due.same("teach", Due.teach(shore, goes + "171;"), 0);
+            shore.pass(1);
+            Due.same("a long test that holds", shore.fisher(0, 6), 0);
+        }
     }
 
     private static void teachWithAnError() {
@@ -273,6 +348,14 @@ public final class EdgesOfCallsTest {
         int[] due = {22, 6, 1, 2, 4, 9, 4, 2, 3};
         for (int what = 0; what <= 8; what++) {
             Due.same("ground(1, " + what + ")", shore.ground(1, what), due[what]);
+        }
+        TideLots all = Due.taught(FIVES + "fisher f mesh 5 net 99 hold 3; fisher g mesh 5 net 99 hold 2; go f to a;"
+                + "go g to a when tide < 2;");
+        int[] caught = {0, 5, 10, 13, 16};
+        for (int tide = 0; tide < caught.length; tide++) {
+            Due.same("fish that were caught there in all in " + tide + " tides", all.ground(0, 8), caught[tide]);
+            Due.same("boats there in the latest of " + tide + " tides", all.ground(0, 7), tide == 0 ? 0 : tide < 3 ? 2 : 1);
+            all.pass(1);
         }
     }
 
@@ -485,14 +568,18 @@ public final class EdgesOfCallsTest {
             Due.same("blame(1)", shore.blame(1), -1);
         }
         // The number of fish counts, not the weight; and those that are in the ground again do not count.
-        TideLots small = Due.taught("ground a room 8 fish 4, 0, 0, 0, 1; fisher f mesh 5 net 99 hold 1;"
-                + "fisher g mesh 1 net 99 hold 2; go f to a; go g to a;");
+        TideLots small = Due.taught("ground a room 8 fish 4, 0, 0, 0, 1; fisher f mesh 1 net 99 hold 2;"
+                + "fisher g mesh 5 net 99 hold 1; go f to a; go g to a;");
         small.pass(1);
-        Due.same("the catch of g", small.fisher(1, 5), 6);
-        Due.same("blame(0)", small.blame(0), 1);
+        Due.same("the catch of f, two fish", small.fisher(0, 5), 2);
+        Due.same("the catch of g, one fish", small.fisher(1, 5), 5);
+        Due.same("blame(0)", small.blame(0), 0);
         TideLots torn = Due.taught("ground a room 1 fish 4; fisher f mesh 1 net 3 hold 9; go f to a;");
         torn.pass(1);
         Due.same("blame(0) of a torn net", torn.blame(0), -1);
+        TideLots single = Due.taught("ground a room 1 fish 4; fisher f mesh 1 net 3 hold 1; fisher g mesh 1 net 3 hold 1; go g to a;");
+        single.pass(1);
+        Due.same("blame(0) of a single fish", single.blame(0), 1);
     }
 
     private static void gap() {
@@ -575,6 +662,131 @@ public final class EdgesOfCallsTest {
             Due.same("foresee(60, " + what + ") of nothing", none.foresee(60, what), 0);
         }
         Due.same("the tide stays", none.count(0), 0);
+    }
+
+    /** All that a tide depends on is there when one looks ahead. */
+    private static void aheadAsItPasses() {
+        String[] numbers = {"tide", "store g", "catch g", "mesh g", "fish a", "boats b", "catch f", "store h", "fish b"};
+        for (String number : numbers) {
+            String text = "ground a room 2 fish 20, 30, 3, 0, 9; ground b room 3 fish 9, 0, 0, 0, 40;"
+                    + "fisher f mesh 5 net 99 hold 3; fisher g mesh 1 net 16 hold 4; fisher h mesh 4 net 40 hold 5;"
+                    + "go g to a when tide / 3 * 3 < tide; go h to b; go g to b; go f to a when # / 2 * 2 = #; go f to b;"
+                    + "pact p of h, f split; pact q of g, h spare b below 40 - #; pact r of f spare a below 50 + #;";
+            for (int past = 0; past < 4; past++) {
+                int tides = past;
+                aheadAsItPasses(number + " behind " + tides + " tides", () -> {
+                    TideLots shore = Due.taught(text.replace("#", number));
+                    for (int i = 0; i < tides; i++) {
+                        shore.pass(1);
+                        shore.cheat(i % 2, true);
+                    }
+                    return shore;
+                });
+            }
+        }
+    }
+
+    /** As many grounds, fishers, goes and pacts as there can be; all that is asked of the last ones of them. */
+    private static void aheadWithTheMostOfAll() {
+        String text = Texts.lines("ground # room 2 fish 20, 0, 9, 0, 9;", 8) + Texts.lines("fisher # mesh 4 net 9 hold 3;", 8)
+                + Texts.lines("go # to #;", 8) + Texts.lines("go # to n8;", 8) + Texts.lines("go n8 to #;", 8)
+                        .replace("go n8 to n8", "go n7 to n6")
+                + Texts.lines("pact # of #, n7 split;", 4) + "pact n5 of n7, n8 spare n8 below 60; pact n6 of n8, n7 split;";
+        for (int past : new int[] {0, 3}) {
+            aheadAsItPasses("the most of all, behind " + past + " tides", () -> {
+                TideLots shore = Due.taught(text);
+                shore.cheat(7, true);
+                for (int tide = 0; tide < past; tide++) {
+                    shore.pass(1);
+                }
+                return shore;
+            });
+        }
+        TideLots shore = Due.taught(text);
+        Due.sentence("promise 17", "Returns this, if nothing is done (nothing is changed).");
+        Twins.unchanged("foresee(60, 0)", () -> Due.taught(text), one -> one.foresee(60, 0));
+        Due.sentence("promise 20", "Returns this, 1 to 5, of several the least (nothing is changed).");
+        Twins.unchanged("advise(7, 40)", () -> Due.taught(text), one -> one.advise(7, 40));
+        int mesh = shore.advise(7, 40);
+        Due.isTrue("advise(7, 40)", mesh >= 1 && mesh <= 5);
+        shore.pass(60);
+        Due.sentence("promise 22", "(all in their order)");
+        Due.same("digest()", shore.digest(), new Sum().all(shore).d.longValue());
+    }
+
+    /** Of a greater shore that was told before nothing may be seen any more, not even behind the last one. */
+    private static void smallBehindGreat() {
+        Due.sentence("promise 4", "in the place of all that was told before");
+        String great = Texts.lines("ground # room 8 fish 99, 0, 0, 0, 99;", 8) + Texts.lines("fisher # mesh 1 net 9 hold 3;", 8)
+                + Texts.lines("go # to n1;", 8) + Texts.lines("go # to n2;", 8) + Texts.lines("pact # of n1, n2 split;", 6);
+        String small = "ground a room 1 fish 5; fisher f mesh 1 net 9 hold 1;";
+        TideLots shore = new TideLots();
+        for (int times = 0; times < 4; times++) {
+            Due.same("teach", Due.teach(shore, great), 0);
+            for (int fisher = 0; fisher < 8; fisher++) {
+                shore.cheat(fisher, true);
+            }
+            shore.pass(3);
+            shore.foresee(9, 0);
+            if (times % 2 == 1) {
+                Due.same("teach", Due.teach(shore, great), 0);
+                shore.pass(3);
+            }
+            int tide = shore.count(0);
+            Due.same("teach", Due.teach(shore, small), 0);
+            int[] due = {tide, 1, 1, 0, 0, 5, 0, 0, 0, 0};
+            for (int what = 0; what <= 9; what++) {
+                Due.same("count(" + what + ")", shore.count(what), due[what]);
+            }
+            Due.same("blame(0)", shore.blame(0), -1);
+            Due.same("gap()", shore.gap(), 0);
+            Due.same("mean()", shore.mean(), 0.0);
+            Due.same("foresee(1, 0)", shore.foresee(1, 0), 0);
+            Due.same("foresee(1, 1)", shore.foresee(1, 1), 5);
+            Due.same("digest()", shore.digest(), new Sum().all(shore).d.longValue());
+            Due.same("pass(1)", shore.pass(1), 0);
+            for (int none = 1; none <= 8; none++) {
+                int i = none;
+                Due.fails("ground(" + i + ", 0)", INDEX, () -> shore.ground(i, 0));
+                Due.fails("fisher(" + i + ", 0)", INDEX, () -> shore.fisher(i, 0));
+                Due.fails("pact(" + (i - 1) + ", 0)", INDEX, () -> shore.pact(i - 1, 0));
+                Due.fails("lot(" + i + ")", INDEX, () -> shore.lot(i));
+            }
+        }
+    }
+
+    private static void aheadAsItPasses(String what, Twins.Maker maker) {
+        TideLots shore = maker.make();
+        for (int tides = 1; tides <= 9; tides += 2) {
+            Due.sentence("promise 17", "Returns this, if nothing is done");
+            TideLots then = maker.make();
+            then.pass(tides);
+            Due.same(what + ": foresee(" + tides + ", 0)", shore.foresee(tides, 0), then.count(6));
+            Due.same(what + ": foresee(" + tides + ", 1)", shore.foresee(tides, 1), then.count(5));
+            Due.same(what + ": foresee(" + tides + ", 2)", shore.foresee(tides, 2), then.gap());
+            Due.sentence("promise 18", "Returns the store of this one behind so many tides, if a cheat from now on, "
+                    + "less that one, if honest from now on");
+            for (int fisher = 0; fisher < shore.count(2); fisher++) {
+                TideLots cheat = maker.make();
+                cheat.cheat(fisher, true);
+                cheat.pass(tides);
+                TideLots honest = maker.make();
+                honest.cheat(fisher, false);
+                honest.pass(tides);
+                Due.same(what + ": pays(" + fisher + ", " + tides + ")", shore.pays(fisher, tides),
+                        cheat.fisher(fisher, 4) - honest.fisher(fisher, 4));
+            }
+        }
+        Due.sentence("promise 19", "Returns behind how many tides it has no fish, if nothing is done");
+        for (int ground = 0; ground < shore.count(1); ground++) {
+            TideLots then = maker.make();
+            int tides = 0;
+            while (tides < 100 && then.ground(ground, 0) > 0) {
+                then.pass(1);
+                tides++;
+            }
+            Due.same(what + ": empty(" + ground + ")", shore.empty(ground), then.ground(ground, 0) == 0 ? tides : -1);
+        }
     }
 
     private static void pays() {
@@ -673,7 +885,8 @@ public final class EdgesOfCallsTest {
         Due.same("the mesh", torn.fisher(0, 0), 6);
         Due.same("advise(0, 1) with a mesh of 6", torn.advise(0, 1), 2);
         Due.same("the mesh then", torn.fisher(0, 0), 6);
-        Due.same("a mesh of 6 alone is of use", Due.taught(start + "go f to a when mesh f = 6;").advise(0, 40), 1);
+        Due.same("a mesh of 6 alone is of use", Due.taught(start + "fisher g mesh 1 net 99 hold 4;"
+                + "go g to a when mesh f = 6; pact p of f, g split;").advise(0, 40), 1);
     }
 
     private static void adviseSmall() {

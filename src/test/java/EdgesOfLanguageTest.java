@@ -17,6 +17,7 @@ public final class EdgesOfLanguageTest {
         blanksBetweenTokens();
         longestToken();
         words();
+        everyByteOfAWord();
         numbers();
         symbols();
         keywords();
@@ -24,6 +25,7 @@ public final class EdgesOfLanguageTest {
         linesOfFishersGoesAndPacts();
         tests();
         sums();
+        unfinishedLines();
         Due.end("EdgesOfLanguageTest");
     }
 
@@ -160,6 +162,34 @@ public final class EdgesOfLanguageTest {
         Texts.bad(3, "fisher abcdefghij mesh 1 net 1 hold 1; pact p of ^abcdefghi split;");
     }
 
+    private static void everyByteOfAWord() {
+        Due.sentence(CHAPTER, "A word: a letter a to z, followed by letters a to z and digits, at most 10 bytes.");
+        String signs = "abcdefghijklmnopqrstuvwxyz0123456789";
+        for (int i = 0; i < signs.length(); i++) {
+            for (int k = 0; k < i; k++) {
+                different("b" + signs.charAt(i), "b" + signs.charAt(k));
+                different("abcdefghi" + signs.charAt(i), "abcdefghi" + signs.charAt(k));
+                different("x" + signs.charAt(i) + signs.charAt(k), "x" + signs.charAt(k) + signs.charAt(i));
+                if (signs.charAt(i) >= 'a') {
+                    different(signs.charAt(i) + "23456789z", (signs.charAt(k) >= 'a' ? signs.charAt(k) : 'a') + "23456789y");
+                }
+            }
+            different("b" + signs.charAt(i), "az");
+            different("b" + signs.charAt(i), "a9");
+            different("a" + signs.charAt(i), "a");
+            different("a" + signs.charAt(i) + signs.charAt(i), "a" + signs.charAt(i));
+        }
+    }
+
+    /** They are the names of two grounds, and each one is found again. */
+    private static void different(String name, String other) {
+        TideLots shore = Due.taught("ground " + name + " room 1 fish 1; ground " + other + " room 1 fish 2;"
+                + "fisher f mesh 1 net 9 hold 9; fisher g mesh 1 net 9 hold 9; go f to " + name + "; go g to " + other + ";");
+        shore.pass(1);
+        Due.same(name + " as a ground", shore.fisher(0, 6), 0);
+        Due.same(other + " as a ground", shore.fisher(1, 6), 1);
+    }
+
     private static void numbers() {
         Due.sentence(CHAPTER, "A number: 1 to 6 digits.");
         for (String zero : new String[] {"0", "00", "000000"}) {
@@ -278,6 +308,37 @@ public final class EdgesOfLanguageTest {
         Texts.bad(1, SPARE_BELOW + "^;");
         Texts.bad(1, SPARE_BELOW + "1 ^split;");
         Texts.bad(1, FISHER + "pact p of f split ^spare f below 1;");
+    }
+
+    /** A line may end behind each |, and behind none of the other tokens. */
+    private static void unfinishedLines() {
+        Due.sentence(CHAPTER, "text = { line \";\" }");
+        String[] lines = {
+            "ground b room 1 fish 1 | , 2 | , 3 |",
+            "fisher g mesh 1 net 1 hold 1 |",
+            "go f to a | when tide < 1 | and 1 + 2 * 3 >= 4 | - mesh f | / 5 | or not cheats f |",
+            "go f to a | when [ 1 < tide or not cheats f ] | and min ( 1 , - 2 ) >= ( fish a ) | + boats a | * - catch f |",
+            "pact p of f , k spare a below max ( 1 , store f ) | * 2 | + tide |",
+            "pact p of f , k split |",
+        };
+        String start = GROUND + FISHER + "fisher k mesh 1 net 1 hold 1;";
+        for (String line : lines) {
+            StringBuilder read = new StringBuilder(start);
+            boolean mayEnd = false;
+            for (String token : line.split(" ")) {
+                if (token.equals("|")) {
+                    Texts.good(read + ";");
+                    Texts.badAt(1, read.length(), read.toString());
+                    mayEnd = true;
+                } else {
+                    if (!mayEnd) {
+                        Texts.badAt(1, read.length(), read + ";");
+                    }
+                    read.append(token).append(' ');
+                    mayEnd = false;
+                }
+            }
+        }
     }
 
     private static void tests() {

@@ -30,6 +30,7 @@ public final class EdgesOfTidesTest {
         inTheGroundAgain();
         aCatchOfNothing();
         numbersInTests();
+        comparisons();
         andAndOr();
         Due.end("EdgesOfTidesTest");
     }
@@ -309,6 +310,12 @@ public final class EdgesOfTidesTest {
         shore.cheat(0, true);
         shore.pass(1);
         Due.same("a test that does not hold", shore.fisher(0, 6), -1);
+        // g has the first lot.
+        TideLots full = Due.taught("fisher f mesh 1 net 99 hold 1; fisher g mesh 1 net 99 hold 1; ground a room 1 fish 9;"
+                + "go f to a; go g to a; pact p of f spare a below 99;");
+        full.cheat(0, true);
+        full.pass(1);
+        Due.same("a ground without room", full.fisher(0, 6), -1);
     }
 
     /** One fisher at one ground: the weight, the fish and the mesh of the catch, and the fish of each size behind it. */
@@ -404,6 +411,7 @@ public final class EdgesOfTidesTest {
             Due.same("pass(1)", shore.pass(1), 0);
             Due.same("the mesh behind the tide " + tide, shore.fisher(0, 0), meshes[tide]);
             Due.same("the tears behind the tide " + tide, shore.fisher(0, 7), tears[tide]);
+            Due.same("wider nets behind the tide " + tide, shore.count(7), 1);
             Due.same("fish behind the tide " + tide, shore.ground(0, 5), 3);
             Due.same("the place in the tide " + tide, shore.fisher(0, 6), 0);
         }
@@ -481,6 +489,26 @@ public final class EdgesOfTidesTest {
 
     private static boolean holds(String test) {
         return place("fisher f mesh 1 net 1 hold 1; ground a room 1 fish 1; go f to a when " + test + ";") == 0;
+    }
+
+    private static void comparisons() {
+        Due.sentence("1. The language", "sum ( \"<\" | \">\" | \"=\" | \"<=\" | \">=\" ) sum");
+        String[] signs = {"<", ">", "=", "<=", ">="};
+        for (int a = -1; a <= 2; a++) {
+            for (int b = -1; b <= 2; b++) {
+                boolean[] due = {a < b, a > b, a == b, a <= b, a >= b};
+                for (int i = 0; i < signs.length; i++) {
+                    String test = a + " " + signs[i] + " " + b;
+                    Due.isTrue(test, holds(test) == due[i]);
+                    Due.isTrue("not " + test, holds("not " + test) == !due[i]);
+                    Due.isTrue("not not " + test, holds("not not " + test) == due[i]);
+                    Due.isTrue(test + " and what holds", holds(test + " and " + YES) == due[i]);
+                    Due.isTrue("what holds and " + test, holds("cheats f or " + YES + " and " + test) == due[i]);
+                    Due.isTrue(test + " or what does not hold", holds(test + " or " + NO) == due[i]);
+                    Due.isTrue("what does not hold or " + test, holds(NO + " or [" + test + "]") == due[i]);
+                }
+            }
+        }
     }
 
     private static void andAndOr() {
