@@ -816,7 +816,7 @@ public final class TideLots {
         }
 
         private boolean take(Sign sign) {
-            if (sign() != sign || at >= MOST_TOKENS) {
+            if (at >= MOST_TOKENS || tape.signs[at] != sign) {
                 return false;
             }
             at++;

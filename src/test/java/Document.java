@@ -17,8 +17,16 @@ final class Document {
         return WHOLE.isEmpty() || part(where).contains(words);
     }
 
+    /** What stands below the heading of a promise. */
+    static String bodyOf(int promise) {
+        String part = part("promise " + promise);
+        int end = part.indexOf("`");
+        return end < 0 ? "" : part.substring(end);
+    }
+
     private static String part(String where) {
         switch (where) {
+            case "anywhere": return WHOLE;
             case "Terms": return between("## Terms", "== 1. The language");
             case "1. The language": return between("== 1. The language", "== 2. Tides");
             case "2. Tides": return between("== 2. Tides", "## Promise 1:");
