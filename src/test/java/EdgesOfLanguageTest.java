@@ -179,6 +179,11 @@ public final class EdgesOfLanguageTest {
             different("a" + signs.charAt(i), "a");
             different("a" + signs.charAt(i) + signs.charAt(i), "a" + signs.charAt(i));
         }
+        // Words that are one number, if it is cut to 32 bits: to the base of 37, and to that of hashCode().
+        different("wafvkrxycu", "fjzgcldyli");
+        different("ffjsxpjmpb", "yubzymtbpl");
+        different("xozsgjbm", "gjpjltng");
+        different("pshtxpju", "ezkgkgsx");
     }
 
     /** They are the names of two grounds, and each one is found again. */
